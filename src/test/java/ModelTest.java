@@ -7,8 +7,11 @@ import java.util.List;
  * class keeps a pile and walks. No call may throw but get and put of a cell that is none.
  */
 public final class ModelTest {
-    private static final int OBJECTS = 3000;
+    private static final int OBJECTS = 20000;
     private static final int CALLS = 160;
+    /** How often, of so many goes, all that can be asked of an object is compared. */
+    private static final int COMPARED_ONE_OF = 16;
+    private static final int MOST_CALLS = 512;
 
     /** The end of a run that is not over, with how it ended. */
     private static final class Ended extends Exception {
@@ -368,7 +371,15 @@ public final class ModelTest {
             default:
                 Check.due("get(" + cell + ")", cellText(x, cell, false, v), cellText(m, cell, false, v));
         }
-        compare(x, m);
+    }
+
+    /** As many calls as compare makes; the document promises an object's first 512 alone. */
+    private static int callsOfCompare(Model m) {
+        return 7 + m.doings.size() + 3 + ordersCompared(m) + 16;
+    }
+
+    private static int ordersCompared(Model m) {
+        return Math.min(m.order.size() + 1, 40);
     }
 
     private static void compare(PerformRanges x, Model m) {
@@ -378,7 +389,9 @@ public final class ModelTest {
         for (int paragraph = -1; paragraph <= m.doings.size() + 1; paragraph++) {
             Check.due("active(" + paragraph + ")", x.active(paragraph), m.active(paragraph));
         }
-        for (int i = 0; i <= m.order.size(); i++) {
+        for (int k = 0; k < ordersCompared(m); k++) {
+            // From the end on, as what comes behind depends on what came ahead.
+            int i = m.order.size() - k;
             Check.due("order(" + i + ")", x.order(i), i < m.order.size() ? m.order.get(i) : 0);
         }
         long[] cells = new long[16];
@@ -388,20 +401,29 @@ public final class ModelTest {
         Check.due("the cells", Arrays.toString(cells), Arrays.toString(m.cells));
     }
 
+    private static void beside(PerformRanges x, Model m, int[] ended) {
+        int made = 0;
+        for (int call = 0; call < CALLS && made < MOST_CALLS; call++) {
+            if (pick(CALLS) >= call) {
+                tell(x, m);
+                made++;
+                continue;
+            }
+            go(x, m);
+            ended[Math.max(0, m.how)]++;
+            made++;
+            if (pick(COMPARED_ONE_OF) == 0 && made + callsOfCompare(m) <= MOST_CALLS) {
+                compare(x, m);
+                made += callsOfCompare(m);
+            }
+        }
+    }
+
     public static void main(String[] args) {
         int[] ended = new int[5];
         for (int object = 0; object < OBJECTS; object++) {
             Check.about("object " + object);
-            PerformRanges x = new PerformRanges();
-            Model m = new Model();
-            for (int call = 0; call < CALLS; call++) {
-                if (pick(CALLS) >= call) {
-                    tell(x, m);
-                } else {
-                    go(x, m);
-                    ended[Math.max(0, x.count(0))]++;
-                }
-            }
+            beside(new PerformRanges(), new Model(), ended);
         }
         for (int how = 0; how < 5; how++) {
             Check.about("the test itself");

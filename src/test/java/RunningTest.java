@@ -290,8 +290,8 @@ public final class RunningTest {
         Check.due("count(0)", x.count(0), DEEP);
     }
 
-    private static void plain() {
-        Check.about("promise 8");
+    /** An object with runs of many kinds: within them, left active, lost, and not whole. */
+    private static PerformRanges withManyRuns() {
         PerformRanges x = Check.with(Check.performs(2), Check.adds(0, 1), Check.countsDown(1, 2), Check.performs(4));
         x.perform(1, 1, 1, 2);
         x.perform(2, 3, 3, 0);
@@ -300,16 +300,23 @@ public final class RunningTest {
         x.perform(3, 1, 0, 0);
         x.perform(4, 4, 0, 0);
         x.perform(1, 1, 2, 0);
-        for (int round = 0; round < 2; round++) {
-            for (int statement = 0; statement <= 6; statement++) {
-                x.put(1, 4);
+        x.put(1, 4);
+        return x;
+    }
+
+    private static void plain() {
+        Check.about("promise 8");
+        for (int statement = 0; statement <= 6; statement++) {
+            PerformRanges x = withManyRuns();
+            for (int round = 0; round < 2; round++) {
                 String before = Check.stateOf(x);
-                int answer = x.plain(statement, 77);
-                Check.due("plain(" + statement + ", 77) changes", Check.stateOf(x), before);
-                Check.due("plain(" + statement + ", 77) again", x.plain(statement, 77), answer);
-                Check.due("run(" + statement + ", 77)", x.run(statement, 77), answer);
+                int answer = x.plain(statement, 37);
+                Check.due("plain(" + statement + ", 37) changes", Check.stateOf(x), before);
+                Check.due("plain(" + statement + ", 37) again", x.plain(statement, 37), answer);
+                Check.due("run(" + statement + ", 37)", x.run(statement, 37), answer);
             }
         }
+        PerformRanges x = withManyRuns();
         long[] noSteps = {-1, 4097, 1L << 32, Long.MIN_VALUE};
         for (long steps : noSteps) {
             Check.due("plain(1, " + steps + ")", x.plain(1, steps), NONE);
