@@ -75,6 +75,7 @@ public final class TermsBoundaryTest {
         level1Holds();
         everyOtherLevelHolds();
         heldAtTheBeginning();
+        stepThenFirstValues();
         stepAheadOfAsking();
     }
 
@@ -356,9 +357,11 @@ public final class TermsBoundaryTest {
 
     private static void atLeast() {
         Check.about("Terms: CONDITIONS (a cell is at least v)");
-        long[] cells = {4, 5, 6, Long.MIN_VALUE, Long.MIN_VALUE, Long.MAX_VALUE - 1, Long.MAX_VALUE, -1};
-        long[] bounds = {5, 5, 5, Long.MIN_VALUE, Long.MIN_VALUE + 1, Long.MAX_VALUE, Long.MAX_VALUE, 0};
-        boolean[] holds = {false, true, true, true, false, false, true, false};
+        long least = Long.MIN_VALUE;
+        long greatest = Long.MAX_VALUE;
+        long[] cells = {4, 5, 6, -1, least, least, least, least, greatest, greatest, greatest - 1};
+        long[] bounds = {5, 5, 5, 0, least, least + 1, 1, greatest, least, greatest, greatest};
+        boolean[] holds = {false, true, true, false, true, false, false, false, true, true, false};
         for (int i = 0; i < cells.length; i++) {
             PerformRanges x = alone(0, 2, 0);
             x.until(1, 15, bounds[i], FIRST);
@@ -583,6 +586,18 @@ public final class TermsBoundaryTest {
         }
     }
 
+    private static void stepThenFirstValues() {
+        Check.about("Terms: cell k - 1 gets its step, cells of levels k and more their first values, of one cell");
+        PerformRanges x = alone(0, 3, 0);
+        x.vary(1, 1, 1, 3, 1);
+        x.vary(1, 2, 1, 7, 1);
+        x.until(1, 2, 1, FIRST);
+        x.until(1, 1, 8, FIRST);
+        Check.due("run(1, 5)", x.run(1, 5), 5);
+        ended(x, STEPS, 1);
+        cellsAre(x, 7);
+    }
+
     private static void stepAheadOfAsking() {
         Check.about("Terms: Behind a turn the last level's cell gets its step ahead of asking");
         PerformRanges x = varying(FIRST, 1);
@@ -721,17 +736,17 @@ public final class TermsBoundaryTest {
 
     private static void pileStaysAsItIs() {
         Check.about("Terms: A go to leaves the pile as it is");
-        PerformRanges x = Check.with(Check.performs(2), 0, Check.goes(5), Check.countsDown(0, 5), 0);
-        x.perform(1, 5, 0, 0);
-        for (int entry = 2; entry <= 4; entry++) {
-            x.perform(entry, 1, 0, 0);
+        int[] waysOut = {0, Check.goes(4), Check.countsDown(0, 4)};
+        for (int wayOut : waysOut) {
+            PerformRanges x = Check.with(Check.performs(2), wayOut, 0, 0);
+            x.perform(1, 3, 0, 0);
+            x.perform(2, 2, 0, 0);
+            x.goTo(2, wayOut == 0 ? 4 : 0);
+            x.put(0, 1);
+            runs(x, 1, FELL_OUT, 2, "1 2 4");
+            Check.due("active(2)", x.active(2), 1);
+            Check.due("active(3)", x.active(3), 1);
         }
-        x.goTo(2, 5);
-        runs(x, 1, FELL_OUT, 2, "1 2 5");
-        runs(x, 3, FELL_OUT, 1, "3 5");
-        x.put(0, 1);
-        runs(x, 4, FELL_OUT, 1, "4 5");
-        Check.due("active(1)", x.active(1), 1);
     }
 
     private static void activeRangeIsComeBackTo() {
